@@ -498,7 +498,7 @@ public final class HatHours {
         }
 
         void setFact(int b, int what, int v) {
-            if (has(b) && isFact(what)) {
+            if (b >= 0 && b < boxes && what >= KIND && what <= ROOM) {
                 facts[b * FACTS + what] = v;
             }
         }
@@ -909,8 +909,8 @@ public final class HatHours {
             switch (line) {
                 case NONE: return failed(NOT_THERE, tokenPlace);
                 case ORDER_LINE: return takesOrderLine();
-                case START_LINE: return takesStartLine();
-                default: return takesBoxLine(line);
+                case START_LINE: return takesStartLine() && takesStop();
+                default: return takesBoxLine(line) && takesStop();
             }
         }
 
@@ -957,7 +957,7 @@ public final class HatHours {
                 }
                 draft.setFact(b, what, number);
             }
-            return takesStop();
+            return true;
         }
 
         private boolean takesStartLine() {
@@ -969,7 +969,7 @@ public final class HatHours {
                 return false;
             }
             draft.setStart(number);
-            return takesStop();
+            return true;
         }
 
         private boolean takesOrderLine() {
@@ -1048,7 +1048,7 @@ public final class HatHours {
                 return true;
             }
             token = NUMBER;
-            return isFigure(c) && passNumber() || failed(NO_TOKEN, tokenPlace);
+            return (isFigure(c) && passNumber()) || failed(NO_TOKEN, tokenPlace);
         }
 
         private void passName() {
@@ -1257,7 +1257,7 @@ public final class HatHours {
                 startsLeft[oclock] = 0;
             }
             for (int start = 0; start < HOURS; start++) {
-                if ((starts >> start & 1) == 1) {
+                if (((starts >> start) & 1) == 1) {
                     draft.setStart(start);
                     int oclock = draft.oclockBy(b, hour);
                     if (isHour(oclock)) {
@@ -1279,7 +1279,7 @@ public final class HatHours {
             int sum = 0;
             for (int i = 0; i < n && i < MOST_DRIFT; i++) {
                 seed = seed * SEED_TIMES + SEED_MORE;
-                int got = seed >> GOT_SHIFT & GOT_MASK;
+                int got = (seed >> GOT_SHIFT) & GOT_MASK;
                 draft.exchange(got % boxes, got / SECOND_PLACE_BY % boxes);
                 draft.setStart(got / START_BY % HOURS);
                 sum += draft.wrongOfAll();

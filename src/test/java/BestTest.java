@@ -146,6 +146,8 @@ final class BestTest {
         due.is("box -1", y.where(-1, 0), HatHours.BAD);
         due.is("what 2", y.where(0, 2), HatHours.BAD);
         due.is("what -1", y.where(0, -1), HatHours.BAD);
+        HatHours last = Due.told("bonnet 3 0 1 12 4;veil 4 0 1 12 0;start 0;");
+        due.is("room 4", last.where(1, 0), 4);
         HatHours z = Due.told("veil 4 0 1 12 3;start 0;");
         due.is("none anywhere: the first", z.where(0, 0), 0);
     }

@@ -77,5 +77,11 @@ final class ChangeTest {
         due.is("sixth", x.sew(1, 2, 3), HatHours.FULL);
         due.is("sixth, bad", x.sew(4, 2, 3), HatHours.BAD);
         due.is("five", x.rule(0), 5);
+        HatHours y = Due.told("bonnet 5 12 3 9 4;bonnet 5 12 3 9 4;");
+        Due.tell(y, "");
+        y.sew(1, 2, 3);
+        due.is("WORTH is not what another had", y.box(0, 3), 1);
+        due.is("OPENED is not what another had", y.box(0, 4), 8);
+        due.is("ROOM is not what another had", y.box(0, 5), 0);
     }
 }

@@ -73,6 +73,12 @@ final class DayTest {
         due.is("nothing strange in 0", x.room(0, 1), 0);
         x.alter(0, 4, 3);
         due.is("its own hour", x.room(1, 1), 0);
+        x.alter(0, 4, 0);
+        due.is("from the hour 0 on", x.room(1, 1), 15);
+        x.alter(1, 4, 23);
+        due.is("no hour 24", x.room(2, 1), 1 << 23);
+        x.alter(1, 5, 4);
+        due.is("room 4", x.room(4, 0), 1);
         due.is("room 5", x.room(5, 0), HatHours.BAD);
         due.is("room -1", x.room(-1, 0), HatHours.BAD);
         due.is("what 2", x.room(0, 2), HatHours.BAD);
@@ -85,6 +91,8 @@ final class DayTest {
         due.is("out(1), wholly behind another", x.out(1), 0);
         due.is("out(2)", x.out(2), 3 << 9);
         due.is("out(3)", x.out(3), HatHours.BAD);
+        x.alter(0, 4, 0);
+        due.is("from the hour 0 on", x.out(0), 15);
         due.is("out(-1)", x.out(-1), HatHours.BAD);
     }
 
@@ -101,6 +109,15 @@ final class DayTest {
         // Room 0 has the hour itself by a box; room 1 has it by none.
         HatHours y = Due.told("bonnet 2 0 1 8 0;");
         due.is("the hour itself, by none", y.meet(0, 1), HatHours.NONE);
+        HatHours early = Due.told("veil 12 0 1 0 1;veil 12 0 1 0 2;veil 12 0 1 0 3;start 0;");
+        due.is("in the hour 0", early.meet(1, 3), 0);
+        HatHours late = Due.told("veil 1 0 1 23 1;veil 1 0 1 22 2;");
+        due.is("in the hour 23", late.meet(1, 2), HatHours.NONE);
+        late.change(0, 1);
+        due.is("8 and 8 o'clock", late.meet(1, 2), 23);
+        // They would have one hour in the hour 24, but THE DAY has none.
+        HatHours over = Due.told("bonnet 1 0 1 22 1;bonnet 12 0 1 22 2;veil 12 0 1 22 2;order 0 2;");
+        due.is("no hour 24", over.meet(1, 2), HatHours.NONE);
     }
 
     private static void first() {
@@ -110,6 +127,11 @@ final class DayTest {
         due.is("by none", x.first(0, 7), 7);
         due.is("in none", x.first(0, 8), HatHours.NONE);
         due.is("elsewhere", x.first(1, 8), 8);
+        due.is("hour 0", x.first(1, 0), 0);
+        due.is("hour 23", x.first(1, 23), 23);
+        // Done at 20, opened at 22: it would be 22 o'clock in an hour 24.
+        HatHours y = Due.told("bonnet 12 0 1 22 0;start 8;");
+        due.is("no hour 24", y.first(0, 22), HatHours.NONE);
         due.is("v 24", x.first(0, 24), HatHours.BAD);
         due.is("v -1", x.first(0, -1), HatHours.BAD);
         due.is("room 5", x.first(5, 0), HatHours.BAD);

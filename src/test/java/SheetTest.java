@@ -46,6 +46,22 @@ final class SheetTest {
         x.start(9);
         due.is("the image is not what is changed", x.back(0), 3);
         due.is("again", x.back(0), 3);
+        x.forget(0);
+        x.see(1, 5, 5);
+        x.see(2, 6, 7);
+        due.is("what was SEEN is not so", x.starts(), 0);
+        due.is("back once more", x.back(0), 3);
+        due.is("what was SEEN then is so", x.starts(), 0xFFFFFF);
+        x.see(4, 9, 10);
+        x.keep(1);
+        x.forget(0);
+        x.see(0, 0, 0);
+        x.see(0, 0, 0);
+        x.see(0, 0, 0);
+        x.back(1);
+        due.is("as SEEN in image 1", x.starts(), 0);
+        due.is("forgotten but two", x.forget(2), 3);
+        due.is("so again", x.starts(), 0xFFFFFF);
     }
 
     private static void sheet() {
@@ -64,6 +80,12 @@ final class SheetTest {
         due.is("40 cells yet", x.count(3), 40);
         due.is("n 0", x.sheet(0, 2, 0), 1);
         due.is("0 cells", x.count(3), 0);
+        due.is("sheet 3, n 40", x.sheet(3, 2, 40), 1);
+        due.is("its last cell", x.lay(3, 39, 1), 1);
+        row(x, 1, 0, 3, 2, 1);
+        x.sheet(0, 0, 40);
+        due.is("another sheet stays", x.read(1, 0, 0, 1), 1);
+        due.is("its kind", x.box(0, 0), 3);
     }
 
     private static void lay() {

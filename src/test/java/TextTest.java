@@ -114,6 +114,10 @@ final class TextTest {
     private static void faults() {
         faulty("bonnets 1 1 1 1 1;", 2, 0);
         faulty("bonne 1 1 1 1 1;", 2, 0);
+        faulty("veilz 1 1 1 1 1;", 2, 0);
+        faulty("aveil 1 1 1 1 1;", 2, 0);
+        faulty("xonnet 1 1 1 1 1;", 2, 0);
+        faulty("tart 1;", 2, 0);
         faulty(";", 2, 0);
         faulty("start 7;;", 2, 8);
         faulty("7", 2, 0);
