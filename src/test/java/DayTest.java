@@ -57,6 +57,8 @@ final class DayTest {
         due.is("and on", x.clock(4, 23, 0), 1);
         due.is("no hours on the next day", x.clock(4, 0, 1), HatHours.NONE);
         due.is("bits", x.out(0), 3 << 22);
+        due.is("yawns in 22 and 23 alone", x.rule(4), 2);
+        due.is("yawns of the room", x.room(4, 0), 2);
         x.start(11);
         due.is("23 o'clock", x.clock(4, 22, 0), 23);
         due.is("modulo 24", x.clock(4, 23, 0), 0);
