@@ -30,6 +30,8 @@ final class FaceTest {
         constantsAndFields();
         classesInside();
         source();
+        library();
+        lengths();
         due.close();
     }
 
@@ -99,7 +101,7 @@ final class FaceTest {
 
     private static void source() throws IOException {
         String text = Files.readString(SOURCE);
-        String code = text.replaceAll("(?s)/\\*.*?\\*/", " ").replaceAll("//[^\n]*", " ");
+        String code = code();
         String[] ruledOut = {"\\bthrow\\b", "\\btry\\b", "\\bcatch\\b", "\\bsynchronized\\b", "\\bassert\\b", "->", "::",
             "\\bimport\\b", "\\bpackage\\b", "Exact\\b", "\\bhashCode\\b", "\\btoString\\b", "\\brecord\\b",
             "\\bThread\\b", "\\bRandom\\b", "currentTime", "nanoTime", "\\bprotected\\b", "while \\(true\\)", "for \\(;;"};
@@ -110,5 +112,35 @@ final class FaceTest {
         due.is("signs of the source are 1 to 127", text.chars().allMatch(c -> c >= 1 && c <= 127) ? 1 : 0, 1);
         Matcher made = Pattern.compile("(?m)^ ++(?!(private )?final ).*\\bnew\\b").matcher(code);
         due.is("objects are made with the object alone", made.find() ? 1 : 0, 0);
+    }
+
+    private static String code() throws IOException {
+        return Files.readString(SOURCE).replaceAll("(?s)/\\*.*?\\*/", " ").replaceAll("//[^\n]*", " ");
+    }
+
+    /** Whatever is asked of a class by its name is asked of one inside, or stands in rule 4. */
+    private static void library() throws IOException {
+        Set<String> known = new HashSet<>(List.of("Math.floorMod", "Math.max", "Math.min", "Integer.bitCount",
+                "System.arraycopy"));
+        Set<String> inside = new HashSet<>();
+        for (Class<?> c : HatHours.class.getDeclaredClasses()) {
+            inside.add(c.getSimpleName());
+        }
+        Matcher asked = Pattern.compile("\\b([A-Z][a-z]\\w*)\\.(\\w+)").matcher(code());
+        while (asked.find()) {
+            boolean may = inside.contains(asked.group(1)) || known.contains(asked.group());
+            due.is(asked.group() + " is of the library that is left", may ? 1 : 0, 1);
+        }
+    }
+
+    private static void lengths() throws IOException {
+        Matcher body = Pattern.compile("(?m)^( {4}| {8})(?! )[^\n]*\\) \\{\n(?:(?!\\1\\}).*\n)*\\1\\}").matcher(code());
+        int methods = 0;
+        while (body.find()) {
+            methods++;
+            long lines = body.group().lines().count();
+            due.is(body.group().lines().findFirst().get() + " has at most sixty lines", lines <= 60 ? 1 : 0, 1);
+        }
+        due.is("methods were found", methods > 100 ? 1 : 0, 1);
     }
 }
